@@ -20,7 +20,7 @@ public final class AgainstModelTest {
     }
 
     public static void main(String[] args) {
-        int runs = args.length > 0 ? Integer.parseInt(args[0]) : 600;
+        int runs = args.length > 0 ? Integer.parseInt(args[0]) : 200;
         int first = args.length > 1 ? Integer.parseInt(args[1]) : 0;
         for (int seed = first; seed < first + runs && DUE.wrong() == 0; seed++) {
             new AgainstModelTest(seed).play();
@@ -175,7 +175,7 @@ public final class AgainstModelTest {
                 break;
             case 28:
                 due(told("mapped", f), x.mapped(f), m.mapped(f));
-                if (dice.once(4)) {
+                if (dice.once(3)) {
                     due("clearMap()", x.clearMap(), m.clearMap());
                 }
                 break;

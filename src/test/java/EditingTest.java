@@ -86,6 +86,7 @@ public final class EditingTest {
         DUE.is("setKey for a 25th key out of range", x.setKey(1, 481, 0), BAD_VALUE);
         DUE.is("checksum() after FULL", x.checksum(), before);
         DUE.is("setKey for the 24th key again", x.setKey(1, 460, 9), 24);
+        DUE.is("setKey for the first key again", x.setKey(1, 0, 9), 24);
         DUE.is("setKey in another curve", x.setKey(2, 3, 0), 1);
     }
 
@@ -126,6 +127,7 @@ public final class EditingTest {
         DUE.is("moveKey(0, 0, 481)", x.moveKey(0, 0, 481), BAD_VALUE);
         DUE.is("moveKey(0, 0, -1)", x.moveKey(0, 0, -1), BAD_VALUE);
         DUE.is("moveKey(0, 0, 10)", x.moveKey(0, 0, 10), NOT_POSSIBLE);
+        DUE.is("moveKey(0, 10, 0)", x.moveKey(0, 10, 0), NOT_POSSIBLE);
         DUE.is("checksum() after errors", x.checksum(), before);
         DUE.is("undo() after moves and errors", x.undo(), 7);
     }
@@ -352,6 +354,8 @@ public final class EditingTest {
         slopesAre(x, 0, 1, 0, 0);
         x.setKey(0, 20, 99);
         slopesAre(x, 0, 1, -323, -323);
+        x.setKey(0, 20, 100);
+        slopesAre(x, 0, 1, 0, 0);
     }
 
     private static void slopesOfEnds() {
@@ -366,6 +370,16 @@ public final class EditingTest {
             x.setMode(0, 20, mode);
             slopesAre(x, 0, 0, slopes[mode][0], slopes[mode][1]);
             slopesAre(x, 0, 2, slopes[mode][2], slopes[mode][3]);
+        }
+        for (int mode = 4; mode <= 5; mode++) {
+            for (int value = -150; value <= 150; value += 50) {
+                x.setKey(0, 0, value);
+                x.setKey(0, 20, value);
+                x.setMode(0, 0, mode);
+                x.setMode(0, 20, mode);
+                slopesAre(x, 0, 0, 0, 0);
+                slopesAre(x, 0, 2, 0, 0);
+            }
         }
     }
 
@@ -387,6 +401,31 @@ public final class EditingTest {
         slopesAre(x, 0, 1, 0, 0);
         x.setKey(0, 10, -100);
         slopesAre(x, 0, 1, 0, 0);
+        x.setKey(2, 5, 10);
+        x.setKey(2, 15, 11);
+        x.setKey(2, 25, 110);
+        x.setMode(2, 15, 5);
+        slopesAre(x, 2, 1, 18, 18);
+        x.setKey(2, 0, 500);
+        slopesAre(x, 2, 2, 18, 18);
+        // The secants here are 1 and -1 on one side.
+        x.setKey(3, 10, 0);
+        x.setKey(3, 74, 1);
+        x.setKey(3, 80, 100);
+        x.setMode(3, 74, 5);
+        slopesAre(x, 3, 1, 3, 3);
+        x.setKey(3, 74, -1);
+        x.setKey(3, 80, -100);
+        slopesAre(x, 3, 1, -3, -3);
+        x.clear(3);
+        x.setKey(3, 10, 0);
+        x.setKey(3, 16, 99);
+        x.setKey(3, 80, 100);
+        x.setMode(3, 16, 5);
+        slopesAre(x, 3, 1, 3, 3);
+        x.setKey(3, 16, -99);
+        x.setKey(3, 80, -100);
+        slopesAre(x, 3, 1, -3, -3);
         // The secant of the keys at 0 and 200 is rounded to 0, so that the slope is 0 too.
         x.setKey(1, 0, 0);
         x.setKey(1, 200, 1);
@@ -417,6 +456,12 @@ public final class EditingTest {
         }
         x.setSlopes(0, 100, 7, -8);
         slopesAre(x, 0, 0, 7, -8);
+        x.setKey(0, 110, 90);
+        x.removeKey(0, 110);
+        for (int mode = 6; mode >= 1; mode--) {
+            x.setMode(0, 100, mode);
+            slopesAre(x, 0, 0, 0, 0);
+        }
     }
 
     private static KeyframeCurves threeKeys() {

@@ -120,6 +120,18 @@ public final class EvaluationTest {
         valueIs(x, 29, 179);
         valueIs(x, 30, 64);
         valueIs(x, 955, 128);
+        foldedFromAnyStart(2, 13, 23, 128);
+        foldedFromAnyStart(2, 14, 24, 141);
+    }
+
+    /** The keys (8, 1) and (18, 3): frames before, and frames behind, that lie at the same place. */
+    private static void foldedFromAnyStart(int kind, int inner, int outer, int want) {
+        KeyframeCurves x = new KeyframeCurves();
+        x.setKey(0, 8, 1);
+        x.setKey(0, 18, 3);
+        x.setExtrapolation(0, kind, kind);
+        valueIs(x, inner, want);
+        valueIs(x, outer, want);
     }
 
     private static void bounce() {
@@ -133,6 +145,8 @@ public final class EvaluationTest {
         valueIs(x, 31, 77);
         valueIs(x, 40, 192);
         valueIs(x, 41, 179);
+        foldedFromAnyStart(3, 13, 23, 128);
+        foldedFromAnyStart(3, 14, 22, 141);
     }
 
     private static void offset() {
@@ -195,6 +209,9 @@ public final class EvaluationTest {
         KeyframeCurves x = rising(0, 0);
         DUE.isDouble("units(0, 11)", x.units(0, 11), 1.203125);
         DUE.isDouble("units(0, 960)", x.units(0, 960), 3.0);
+        DUE.isDouble("units(0, 0)", x.units(0, 0), 1.0);
+        x.setKey(3, 5, -7);
+        DUE.isDouble("units(3, 0) of one key", x.units(3, 0), -7.0);
         DUE.isDouble("units(1, 11)", x.units(1, 11), 0.0);
         DUE.isDouble("units(0, 961)", x.units(0, 961), 0.0);
         DUE.isDouble("units(0, -1)", x.units(0, -1), 0.0);
@@ -214,6 +231,8 @@ public final class EvaluationTest {
         DUE.isDouble("mean(0, 10, 11)", x.mean(0, 10, 11), 141.0 / 128.0);
         DUE.isDouble("mean(0, 18, 20)", x.mean(0, 18, 20), (166 + 179 + 192) / (64.0 * 3));
         DUE.isDouble("mean(0, 0, 960)", x.mean(0, 0, 960), (10 * 64 + 128 * 11 + 940 * 192) / (64.0 * 961));
+        x.setKey(3, 5, -7);
+        DUE.isDouble("mean(3, 0, 10) of one key", x.mean(3, 0, 10), -7.0);
         DUE.isDouble("mean(0, 11, 10)", x.mean(0, 11, 10), 0.0);
         DUE.isDouble("mean(0, -1, 10)", x.mean(0, -1, 10), 0.0);
         DUE.isDouble("mean(0, 10, 961)", x.mean(0, 10, 961), 0.0);
@@ -246,6 +265,9 @@ public final class EvaluationTest {
         DUE.is("extreme(0, 22, 39, false)", x.extreme(0, 22, 39, false), 39);
         DUE.is("extreme(0, 21, 29, true)", x.extreme(0, 21, 29, true), 29);
         DUE.is("extreme(0, 25, 25, true)", x.extreme(0, 25, 25, true), 25);
+        DUE.is("extreme(0, 25, 26, true)", x.extreme(0, 25, 26, true), 26);
+        DUE.is("extreme(0, 29, 40, true)", x.extreme(0, 29, 40, true), 30);
+        DUE.is("extreme(0, 19, 30, false)", x.extreme(0, 19, 30, false), 20);
         DUE.is("extreme(0, 960, 960, false)", x.extreme(0, 960, 960, false), 960);
         rangeErrors(x, (c, from, to) -> x.extreme(c, from, to, true));
         rangeErrors(x, (c, from, to) -> x.extreme(c, from, to, false));

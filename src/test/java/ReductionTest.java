@@ -167,6 +167,16 @@ public final class ReductionTest {
         DUE.is("decimate(0, 639)", x.decimate(0, 639), 0);
         DUE.is("decimate(0, 640)", x.decimate(0, 640), 1);
         DUE.is("keys(0)", x.keys(0), 2);
+        x.clear(0);
+        linear(x, 478, 0, 479, 5, 480, 0);
+        DUE.is("decimate(0, 319) of three frames", x.decimate(0, 319), 0);
+        DUE.is("decimate(0, 320) of three frames", x.decimate(0, 320), 1);
+        x.clear(0);
+        linear(x, 0, 0, 10, 0, 20, 50);
+        x.setMode(0, 0, 6);
+        x.setMode(0, 10, 6);
+        DUE.is("decimate(0, 0) of HOLD", x.decimate(0, 0), 1);
+        DUE.is("frameOf(0, 1)", x.frameOf(0, 1), 20);
     }
 
     /** Without 10 the way differs by 640 parts, without 20 by 480, without 30 by 320. */

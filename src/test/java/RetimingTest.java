@@ -70,6 +70,14 @@ public final class RetimingTest {
         DUE.is("undo()", x.undo(), 3);
         DUE.is("undo()", x.undo(), 2);
         DUE.is("mapped(150) after undo", x.mapped(150), 190);
+        x.clearMap();
+        x.addPoint(5, 10);
+        x.addPoint(6, 20);
+        DUE.is("undo()", x.undo(), 4);
+        DUE.is("undo()", x.undo(), 3);
+        DUE.is("undo()", x.undo(), 2);
+        DUE.is("mapped(150) after new points and undo", x.mapped(150), 190);
+        DUE.is("mapped(0) after new points and undo", x.mapped(0), -60);
     }
 
     private static void mapped() {
@@ -212,6 +220,8 @@ public final class RetimingTest {
         bakedKeyIs(x, 3, 18, 80, 2);
         bakedKeyIs(x, 4, 30, 50, 6);
         DUE.is("undo()", x.undo(), 7);
+        DUE.is("bake(0, 11, 19, 8) between two keys", x.bake(0, 11, 19, 8), 5);
+        DUE.is("undo()", x.undo(), 7);
         DUE.is("keys(0) after undo", x.keys(0), 3);
         x.setExtrapolation(0, 2, 3);
         DUE.is("bake(0, 10, 30, 10)", x.bake(0, 10, 30, 10), 3);
@@ -282,6 +292,10 @@ public final class RetimingTest {
         DUE.is("checksum() after errors", x.checksum(), before);
         DUE.is("bake(0, 100, 120, 1)", x.bake(0, 100, 120, 1), 24);
         DUE.is("bake(0, 97, 120, 1)", x.bake(0, 97, 120, 1), FULL);
+        DUE.is("bake(0, 31, 32, 1)", x.bake(0, 31, 32, 1), FULL);
+        DUE.is("bake(0, 29, 29, 1)", x.bake(0, 29, 29, 1), FULL);
+        DUE.is("bake(0, 28, 29, 1)", x.bake(0, 28, 29, 1), FULL);
+        DUE.is("bakeFormula(0, 29, 29, 1)", x.bakeFormula(0, 29, 29, 1), FULL);
         DUE.is("bake(0, 10, 33, 1)", x.bake(0, 10, 33, 1), FULL);
         DUE.is("bake(0, 100, 120, 1) again", x.bake(0, 100, 120, 1), 24);
         DUE.is("bake(0, 0, 480, 21)", x.bake(0, 0, 480, 21), 23);

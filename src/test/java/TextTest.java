@@ -149,6 +149,11 @@ public final class TextTest {
         formulaFault("(((((((min(1,2))))))))", NONE);
         formulaFault("(((((((min(1,(2))", 13);
         formulaFault("(((((((min(-1,2)", 11);
+        formulaFault("((((((min(1,(2)))))))))", 22);
+        formulaFault("((((((min(1,(2))))))))", NONE);
+        formulaFault("((((((min((1),2)))))))", NONE);
+        formulaFault("((((((max(1,--2", 13);
+        formulaFault("((((((max(--1", 11);
         formulaFault("--------1*--------1+(((((((-1)))))))-((((((((2))))))))", NONE);
         formulaFault("((((((((1+-1", 10);
     }
@@ -349,6 +354,7 @@ public final class TextTest {
         mixIs(x, "c@7-1", 500, -64);
         mixIs(x, "d*d@3", 500, 256);
         mixIs(x, "a-a@1", 22, 13);
+        mixIs(x, "a", 22, 218);
         x.clear(0);
         DUE.is("mix(22) without keys", x.mix(22), 0);
     }
