@@ -21,6 +21,7 @@ public final class BoundsOfCurvesTest {
         modesAtEachPlace();
         modesOfTwoKeys();
         secantsAreRounded();
+        autoIsRounded();
         clampedIsStrictlyBetween();
         monotoneAtThreeTimes();
         monotoneOfFlatOrTurningSecants();
@@ -147,6 +148,17 @@ public final class BoundsOfCurvesTest {
         slopesAre(run, 0, 1, -127872, -127872);
     }
 
+    /** From the key before to the next one there are 128 frames, so that 1 is a half. */
+    private static void autoIsRounded() {
+        int[] values = {1, -1, 3, -3, 2, -2};
+        int[] due = {1, 0, 2, -1, 1, -1};
+        for (int i = 0; i < values.length; i++) {
+            Run run = run("AUTO: round(64 * (w - v), b - a), of two the greater one");
+            run.first("setKey(0, 0, 0)", "setKey(0, 50, 900)", "setKey(0, 128, " + values[i] + ")");
+            slopesAre(run, 0, 1, due[i], due[i]);
+        }
+    }
+
     private static void clampedIsStrictlyBetween() {
         Run run = run("between if it is greater than one of them and less than the other one");
         run.first("setKey(0, 0, 10)", "setKey(0, 10, 10)", "setKey(0, 20, 20)", "setMode(0, 10, 4)");
@@ -227,6 +239,11 @@ public final class BoundsOfCurvesTest {
         slopesAre(run, 3, 0, -64, -64);
         run.first("removeKey(3, 7)", "setMode(3, 8, 2)");
         slopesAre(run, 3, 0, 0, 0);
+        run.first("setKey(3, 480, -5)", "removeKey(3, 480)");
+        for (int mode = 1; mode <= 6; mode++) {
+            run.first("setMode(3, 8, " + mode + ")");
+            slopesAre(run, 3, 0, 0, 0);
+        }
     }
 
     private static void orderedByFrames() {

@@ -40,6 +40,7 @@ public final class BoundsOfTextsTest {
         mixFrames();
         mixEarlierFrames();
         mixWithoutKeys();
+        mixOfNumbers();
         mixFromTheLeft();
         mixLimitsSums();
         mixLimitsProducts();
@@ -410,6 +411,15 @@ public final class BoundsOfTextsTest {
 
     private static void mixIs(Run run, int frame, String text, int want) {
         run.type(text).first("readFormula()").is("mix(" + frame + ")", want);
+    }
+
+    private static void mixOfNumbers() {
+        Run run = run("a number stands for so many units (64 parts each)");
+        String[] texts = {"0", "1", "00", "09", "099", "999", "-999", "a@999+5"};
+        int[] due = {0, 64, 0, 576, 6336, 63936, -63936, 320};
+        for (int i = 0; i < texts.length; i++) {
+            mixIs(run, 960, texts[i], due[i]);
+        }
     }
 
     private static void mixFromTheLeft() {
