@@ -37,6 +37,7 @@ public final class BoundsOfTextsTest {
         readCurveOf24Keys();
         readFormulaBounds();
         readFormulaCounts();
+        readFormulaInPlaceOfALongerOne();
         mixFrames();
         mixEarlierFrames();
         mixWithoutKeys();
@@ -375,6 +376,18 @@ public final class BoundsOfTextsTest {
             Run run = run("a number behind @ does not count: " + texts[i]).type(texts[i]);
             run.is("readFormula()", due[i]);
         }
+    }
+
+    private static void readFormulaInPlaceOfALongerOne() {
+        Run run = run("nothing of a longer formula, or of a text with a fault, is left");
+        mixIs(run, 0, "1*-2", -128);
+        mixIs(run, 0, "-1", -64);
+        mixIs(run, 0, "7", 448);
+        run.type("--8*-9+").refuses(BAD_VALUE, "readFormula()").is("readFormula()", BAD_VALUE).is("mix(0)", 448);
+        run.is("faultPosition(true)", 7).is("mix(0)", 448);
+        mixIs(run, 0, "6", 384);
+        run.is("undo()", 3).is("mix(0)", 448).is("undo()", 2).is("mix(0)", -64).is("undo()", 1).is("mix(0)", -128);
+        run.is("undo()", 0).is("mix(0)", 0);
     }
 
     private static void mixFrames() {
