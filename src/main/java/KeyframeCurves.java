@@ -913,7 +913,7 @@ public final class KeyframeCurves {
             return index >= 0 && index < curves.length ? curves[index] : null;
         }
 
-        void copy(State other) {
+        void copyAll(State other) {
             map.copy(other.map);
             formula.copy(other.formula);
             for (int i = 0; i < CURVES; i++) {
@@ -945,7 +945,7 @@ public final class KeyframeCurves {
             }
             State kept = stateAt((oldest + count) % MOST_STATES);
             if (kept != null) {
-                kept.copy(state);
+                kept.copyAll(state);
             }
             count++;
         }
@@ -958,7 +958,7 @@ public final class KeyframeCurves {
             count--;
             State kept = stateAt((oldest + count) % MOST_STATES);
             if (kept != null) {
-                state.copy(kept);
+                state.copyAll(kept);
             }
             return count;
         }

@@ -87,6 +87,20 @@ public final class FaceTest {
                 && Modifier.isFinal(KeyframeCurves.class.getModifiers()));
         DUE.holds("the class has no package", KeyframeCurves.class.getPackageName().isEmpty());
         DUE.holds("at most twelve classes", KeyframeCurves.class.getDeclaredClasses().length < 12);
+        fewFields(KeyframeCurves.class);
+        for (Class<?> inner : KeyframeCurves.class.getDeclaredClasses()) {
+            fewFields(inner);
+        }
+    }
+
+    private static void fewFields(Class<?> type) {
+        int fields = 0;
+        for (Field f : type.getDeclaredFields()) {
+            fields += Modifier.isStatic(f.getModifiers()) ? 0 : 1;
+            DUE.holds(type + ": " + f.getName() + " is final, if static",
+                    !Modifier.isStatic(f.getModifiers()) || Modifier.isFinal(f.getModifiers()));
+        }
+        DUE.holds(type + " has at most twenty fields beside its constants", fields <= 20);
     }
 
     private static String signature(Method m) {

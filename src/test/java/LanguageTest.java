@@ -1,6 +1,11 @@
 import java.nio.file.Files;
 import java.nio.file.Path;
+import java.util.ArrayList;
+import java.util.HashMap;
+import java.util.HashSet;
 import java.util.List;
+import java.util.Map;
+import java.util.Set;
 import java.util.regex.Matcher;
 import java.util.regex.Pattern;
 
@@ -16,13 +21,13 @@ public final class LanguageTest {
         "\\bdouble [a-z]+[ ;]", "hashCode", "toString", "static \\{", "Object", "\"", "[^\\x00-\\x7f]"};
 
     /** Where an index or a divisor is used: the line must hold, or follow, its test. */
-    private static final String[] INDEXED = {
+    private static final List<String> INDEXED = List.of(
         "return index >= 0 && index < row.length ? row[index] : 0;",
         "row[index] = content;",
         "return index >= 0 && index < curves.length ? curves[index] : null;",
         "return index >= 0 && index < states.length ? states[index] : null;",
         "curves[i] = new Curve();",
-        "states[i] = new State();"};
+        "states[i] = new State();");
     private static final String[] DIVIDED = {
         "return (float) asked.partsAt(frame) / 64.0f;",
         "return (double) sum / (64.0 * (to - from + 1));",
@@ -31,6 +36,13 @@ public final class LanguageTest {
         "int earlier = Math.max(0, frame - detail % LOOK_BACK);",
         "oldest = (oldest + 1) % MOST_STATES;",
         "State kept = stateAt((oldest + count) % MOST_STATES);"};
+
+    /** The methods that call one another, with the depth as an argument; all others stay outside any circle of calls. */
+    private static final Set<String> RECURSIVE = Set.of("sum", "product", "factor", "choice");
+    private static final int DEEPEST = 8;
+    private static final Pattern METHOD = Pattern.compile("(?: {4}| {8})(?:[a-z]+ )*[A-Za-z\\[\\]]+ ([a-z][A-Za-z]*)\\(.*\\) \\{");
+    private static final Pattern CALL = Pattern.compile("\\b(Math\\.|System\\.)?([a-z][A-Za-z]*)\\(");
+    private static final Set<String> NO_CALLS = Set.of("if", "for", "while", "switch", "return");
 
     public static void main(String[] args) throws Exception {
         List<String> lines = Files.readAllLines(SOURCE);
@@ -42,6 +54,8 @@ public final class LanguageTest {
         absentWords(code);
         guarded(code);
         methodsAreShort(code);
+        objectsAreMadeOnce(code);
+        callsAreNotDeep(code);
         DUE.finish();
     }
 
@@ -57,7 +71,7 @@ public final class LanguageTest {
             String told = line.trim();
             String values = told.replaceAll("new [A-Za-z]+\\[[A-Z_0-9 +]+\\]", "");
             if (values.matches(".*[a-z]\\[[^\\]]+\\].*")) {
-                DUE.holds("a test of the index in: " + told, List.of(INDEXED).contains(told));
+                DUE.holds("a test of the index in: " + told, INDEXED.contains(told));
             }
             if (told.matches(".*[^/][/%][^/].*")) {
                 DUE.holds("a test of the divisor in: " + told, List.of(DIVIDED).contains(told));
@@ -82,5 +96,59 @@ public final class LanguageTest {
             DUE.holds("at most 125 letters in " + lines[i], lines[i].length() <= 125);
         }
         DUE.holds("at most twelve classes", classes <= 12 && classes > 0);
+    }
+
+    /** All objects are made with the editor, as fields or in constructors, so that no call makes one. */
+    private static void objectsAreMadeOnce(String code) {
+        for (String line : code.split("\n")) {
+            if (line.matches(".*\\bnew\\b.*")) {
+                boolean field = line.matches("( {4}| {8})(private )?final [A-Za-z]+(\\[\\])? [a-zA-Z]+ = new .*;");
+                DUE.holds("a field or a row of a constructor in: " + line.trim(), field || INDEXED.contains(line.trim()));
+            }
+        }
+    }
+
+    /** Methods of one name, in whatever classes, are taken for one, so that no way of calls is overlooked. */
+    private static void callsAreNotDeep(String code) {
+        Map<String, Set<String>> calls = new HashMap<>();
+        Set<String> called = null;
+        for (String line : code.split("\n")) {
+            Matcher method = METHOD.matcher(line);
+            if (method.matches()) {
+                called = calls.computeIfAbsent(method.group(1), name -> new HashSet<>());
+            } else if (called != null) {
+                collectCalls(line, called);
+            }
+        }
+        DUE.holds("more than a hundred methods found", calls.size() > 100);
+        for (String name : calls.keySet()) {
+            int depth = depth(name, calls, new ArrayList<>());
+            DUE.holds("at most eight calls deep from " + name + ", not " + depth, depth <= DEEPEST);
+        }
+    }
+
+    private static void collectCalls(String line, Set<String> called) {
+        Matcher call = CALL.matcher(line);
+        while (call.find()) {
+            if (call.group(1) != null) {
+                called.add(call.group());
+            } else if (!NO_CALLS.contains(call.group(2)) && !line.contains("new " + call.group(2))) {
+                called.add(call.group(2));
+            }
+        }
+    }
+
+    private static int depth(String name, Map<String, Set<String>> calls, List<String> open) {
+        if (open.contains(name)) {
+            DUE.holds(name + ", which calls itself by " + open + ",", RECURSIVE.contains(name));
+            return 0;
+        }
+        open.add(name);
+        int deepest = 0;
+        for (String next : calls.getOrDefault(name, Set.of())) {
+            deepest = Math.max(deepest, depth(next, calls, open));
+        }
+        open.remove(open.size() - 1);
+        return deepest + (RECURSIVE.contains(name) ? 0 : 1);
     }
 }
